@@ -172,6 +172,10 @@ public final class DoneTest {
         }
         check.due("THE DRAW", y.seed(1), draw);
 
+        DullEvenings w = Check.told("9;p20");
+        check.due("looks of a drift", w.drift(3), 3);
+        check.due("looks of the next alone", w.drift(2), 2);
+
         DullEvenings z = new DullEvenings();
         check.due("a drift of nobody", z.drift(1), 0);
         check.due("draws all the same", z.seed(1), 1103527590);

@@ -119,6 +119,12 @@ public final class ForetoldTest {
         // Seats 0 and 1, then 3 and 0 by STEP 3, then 2 and 3, and so on.
         check.due("step 3", z.pace(2, 0), 3);
         check.due("heard by 3", z.pace(2, 1), 3);
+        check.due("in one evening", z.pace(1, 0), 0);
+        check.due("heard in one evening", z.pace(1, 1), 1);
+        DullEvenings w = Check.told("10,1,1,1,20-15;p10");
+        // Only hearer 4 can bear a second tale, behind a rest; STEP 4 brings it to him.
+        check.due("step 4", w.pace(2, 0), 4);
+        check.due("heard by 4", w.pace(2, 1), 2);
     }
 
     private static void promise24Seating() {
@@ -146,14 +152,18 @@ public final class ForetoldTest {
         }
         check.due("of like ones how much", y.seating(5, -1), 10);
         check.due("beyond 9", Check.told("60;p1").seating(20, -1), 20);
-        // Who never heard the wit pays 16, who heard him pays 21: each takes his HEARD along.
-        DullEvenings z = Check.told("60,20;w20,p20!0");
+        // Each has heard his own wit (21 now) and can bear the other's (16).
+        DullEvenings z = Check.told("20,16;w20,w20!0");
         z.evenings(1);
         z.rest(0, 60);
         z.rest(1, 60);
-        z.spin(1, 1);
-        check.due("heard is by teller", z.seating(1, -1), 2);
-        check.due("the first order will do", z.seating(1, 0), 0);
+        check.due("HEARD goes along with the teller", z.seating(1, -1), 2);
+        check.due("so they change seats", z.seating(1, 0), 1);
+        DullEvenings last = Check.told("1,2,3,4,5;p5,p4,p3,p2,p1!0");
+        for (int k = 0; k < 5; k++) {
+            check.due("the last order " + k, last.seating(1, k), 4 - k);
+        }
+        check.due("the last order, how much", last.seating(1, -1), 5);
         Check.tell(z, "20,16;w20,p20!0");
         check.due("the wit to the weaker", z.seating(1, 0), 1);
     }
@@ -224,6 +234,7 @@ public final class ForetoldTest {
         odds(y, 1, 3, 91, 100);
         odds(y, 2, 3, 49, 100);
         odds(Check.told("1;p8"), 1, 5, 1, 1);
+        odds(Check.told("8;p8"), 1, 5, 0, 1);
         odds(Check.told("4;p9"), 1, 10, 0, 1);
         odds(Check.told("3;p9"), 1, 10, 1, 1);
         odds(Check.told("5,5;p8!0"), 1, 5, 1, 2);

@@ -74,6 +74,7 @@ public final class TellersHearersTest {
         x.turn(4);
         check.due("the sixth", x.hearer(9), -3);
         check.due("FULL leaves TURN", x.count(4), 4);
+        check.due("FULL leaves what may be undone", x.count(8), 1);
         check.due("BAD ahead of FULL", x.hearer(0), -1);
     }
 
