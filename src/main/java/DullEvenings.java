@@ -168,7 +168,7 @@ public final class DullEvenings {
             case 1:
                 return now.hearers;
             case 2:
-                return now.seats();
+                return now.seats;
             case 3:
                 return now.evening;
             case 4:
@@ -196,7 +196,7 @@ public final class DullEvenings {
         tried.clear();
         for (int i = 0; i < n; i++) {
             past.note(now);
-            now.passEvening(tried);
+            now.passEvening(NONE, tried);
         }
         return tried.looks;
     }
@@ -239,7 +239,7 @@ public final class DullEvenings {
     }
 
     public int turn(int v) {
-        if (!within(v, 0, now.seats() - 1)) {
+        if (!within(v, 0, now.seats - 1)) {
             return BAD;
         }
         int before = now.turn;
@@ -260,7 +260,7 @@ public final class DullEvenings {
         for (int i = 0; i < n; i++) {
             past.note(now);
             now.drawRest();
-            now.passEvening(tried);
+            now.passEvening(NONE, tried);
         }
         return tried.looks;
     }
@@ -319,7 +319,7 @@ public final class DullEvenings {
             if (trial.allHeardAll()) {
                 return n;
             }
-            trial.passEvening(tried);
+            trial.passEvening(NONE, tried);
         }
         return NONE;
     }
@@ -582,7 +582,7 @@ public final class DullEvenings {
     private void tryEvenings(int n) {
         tried.clear();
         for (int i = 0; i < n; i++) {
-            trial.passEvening(tried);
+            trial.passEvening(NONE, tried);
         }
     }
 
@@ -619,8 +619,8 @@ public final class DullEvenings {
     private int looksWithout(int hearer) {
         trial.become(now);
         tried.clear();
-        trial.passEveningWithout(hearer, tried);
-        trial.passEvening(tried);
+        trial.passEvening(hearer, tried);
+        trial.passEvening(NONE, tried);
         return tried.looks;
     }
 
@@ -671,6 +671,7 @@ public final class DullEvenings {
     private static final class Shire {
         int tellers;
         int hearers;
+        int seats;
         int turn;
         int step;
         int evening;
@@ -696,6 +697,7 @@ public final class DullEvenings {
         void become(Shire other) {
             tellers = other.tellers;
             hearers = other.hearers;
+            seats = other.seats;
             turn = other.turn;
             step = other.step;
             evening = other.evening;
@@ -712,6 +714,7 @@ public final class DullEvenings {
         void empty() {
             tellers = 0;
             hearers = 0;
+            seats = 0;
             turn = 0;
             step = 1;
             evening = 0;
@@ -731,6 +734,7 @@ public final class DullEvenings {
             kind[t] = ofKind;
             lasts[t] = lasting;
             tellers++;
+            seats = Math.max(tellers, hearers);
             turn = 0;
             return t;
         }
@@ -743,16 +747,12 @@ public final class DullEvenings {
             most[h] = bearing;
             bears[h] = bearing;
             hearers++;
+            seats = Math.max(tellers, hearers);
             turn = 0;
             return h;
         }
 
-        int seats() {
-            return Math.max(tellers, hearers);
-        }
-
         private int leftOverBySeats(int v) {
-            int seats = seats();
             return seats == 0 ? 0 : v % seats;
         }
 
@@ -766,7 +766,7 @@ public final class DullEvenings {
         }
 
         int tellerOf(int h) {
-            int t = leftOverBySeats(h + seats() - turn);
+            int t = leftOverBySeats(h + seats - turn);
             return t < tellers ? t : NONE;
         }
 
@@ -811,37 +811,22 @@ public final class DullEvenings {
         }
 
         int costFor(int h, int t) {
+            int plain = lasts[t];
+            int drone = plain + timesHeard(h, t);
+            int tap = evening % 2 == 1 ? plain / 2 : plain;
             switch (kind[t]) {
                 case DRONE:
-                    return droneCost(h, t);
+                    return drone;
                 case TAP:
-                    return tapCost(t);
+                    return tap;
                 case WIT:
-                    return witCost(h, t);
+                    return timesHeard(h, t) == 0 ? Math.max(0, drone - 4) : drone;
                 case UMBRELLA:
-                    return umbrellaCost(h, t);
+                    return bears[h] <= 9 ? tap + 3 : tap;
                 case PLAIN:
                 default:
-                    return lasts[t];
+                    return plain;
             }
-        }
-
-        private int droneCost(int h, int t) {
-            return lasts[t] + timesHeard(h, t);
-        }
-
-        private int tapCost(int t) {
-            return evening % 2 == 1 ? lasts[t] / 2 : lasts[t];
-        }
-
-        private int witCost(int h, int t) {
-            int cost = droneCost(h, t);
-            return timesHeard(h, t) == 0 ? Math.max(0, cost - 4) : cost;
-        }
-
-        private int umbrellaCost(int h, int t) {
-            int cost = tapCost(t);
-            return bears[h] <= 9 ? cost + 3 : cost;
         }
 
         /** A hearer's part of the EVENING: ALONE, HEARS or LOOKS. */
@@ -867,11 +852,8 @@ public final class DullEvenings {
             evening++;
         }
 
-        void passEvening(Tally tally) {
-            passEveningWithout(NONE, tally);
-        }
-
-        void passEveningWithout(int absent, Tally tally) {
+        /** An EVENING of all but one, who may be NONE. */
+        void passEvening(int absent, Tally tally) {
             for (int h = 0; h < hearers; h++) {
                 if (h != absent) {
                     tally.note(sitThrough(h));
