@@ -21,7 +21,9 @@ public final class ForetoldEdgesTest {
         paceBeyondNine();
         seatingOfFew();
         seatingOfLikeOrders();
+        seatingOfEachOrder();
         seatingFromTheSeatNow();
+        seatingWithWhatWasHeard();
         seatingBeyondNine();
         needsAtTheEnds();
         needsMostAsMuch();
@@ -34,6 +36,7 @@ public final class ForetoldEdgesTest {
         dozeByMany();
         dozeInLowestTerms();
         images();
+        imagesOfEachPast();
         imagesOfTheEnds();
         check.end();
     }
@@ -262,6 +265,60 @@ public final class ForetoldEdgesTest {
         DullEvenings last = Check.told("1,2,3,4,5;p5,p4,p3,p2,p1!0");
         for (int k = 0; k < 5; k++) {
             check.due("the last of 120, the k-th " + k, last.seating(1, k), 4 - k);
+        }
+    }
+
+    private static void seatingOfEachOrder() {
+        check.sentence("SEATING: the order in which TELLERS should sit (each of 120 is the best of some list)");
+        for (int code = 0; code < 3125; code++) {
+            int[] order = {code / 625, code / 125 % 5, code / 25 % 5, code / 5 % 5, code % 5};
+            int seen = 0;
+            for (int t : order) {
+                seen |= 1 << t;
+            }
+            if (seen == 31) {
+                seatingIs(order);
+            }
+        }
+    }
+
+    /** Hearer k can bear k + 1, and the tale of the k-th of the order costs just that. */
+    private static void seatingIs(int[] order) {
+        int[] lasts = new int[5];
+        for (int k = 0; k < 5; k++) {
+            lasts[order[k]] = k + 1;
+        }
+        DullEvenings x = new DullEvenings();
+        for (int i = 0; i < 5; i++) {
+            x.hearer(i + 1);
+            x.teller(0, lasts[i]);
+        }
+        check.due("how much", x.seating(1, -1), 5);
+        for (int k = 0; k < 5; k++) {
+            check.due("the k-th " + k, x.seating(1, k), order[k]);
+        }
+    }
+
+    private static void seatingWithWhatWasHeard() {
+        check.sentence("SEATING: (how often one HEARD him goes along with a TELLER)");
+        // Each has heard his own wit, who costs him 21 then; the other's costs 16.
+        for (int hearers = 2; hearers <= 5; hearers++) {
+            DullEvenings x = new DullEvenings();
+            for (int i = 0; i < hearers; i++) {
+                x.hearer(16);
+                x.teller(3, 20);
+            }
+            x.step(0);
+            x.evenings(1);
+            for (int h = 0; h < hearers; h++) {
+                x.rest(h, 16);
+            }
+            check.due("how much for " + hearers, x.seating(1, -1), hearers);
+            // The first order that leaves nobody his own: 1 0, 1 2 0, 1 0 3 2, 1 0 3 4 2.
+            String first = new String[] {"10", "120", "1032", "10342"}[hearers - 2];
+            for (int k = 0; k < hearers; k++) {
+                check.due("the k-th " + k + " for " + hearers, x.seating(1, k), first.charAt(k) - '0');
+            }
         }
     }
 
@@ -507,6 +564,27 @@ public final class ForetoldEdgesTest {
         check.due("older ones are lost", x.undo(), NONE);
         check.due("restore() once more", x.restore(), 1);
         check.due("to be undone once more", x.count(8), 8);
+    }
+
+    private static void imagesOfEachPast() {
+        check.sentence("Promise 29: All is as it was then (what may be UNDONE too)");
+        for (int done = 0; done <= 17; done++) {
+            DullEvenings x = Check.told("60;p1");
+            for (int i = 0; i < done; i++) {
+                x.evenings(1);
+            }
+            x.image();
+            x.evenings(20);
+            x.restore();
+            int known = Math.min(8, done);
+            check.due("known of " + done, x.count(8), known);
+            for (int i = 1; i <= known; i++) {
+                check.due("undo()", x.undo(), known - i);
+                check.due("EVENING", x.count(3), done - i);
+                check.due("BEARS", x.at(0, 1), 60 - (done - i));
+            }
+            check.due("undo()", x.undo(), NONE);
+        }
     }
 
     private static DullEvenings imaged() {
